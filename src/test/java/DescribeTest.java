@@ -6,6 +6,7 @@ public final class DescribeTest {
         sharedCircuit();
         speakerChanges();
         becomesShared();
+        everyCircuit();
         exits();
         renewal();
         wrongInputs();
@@ -114,6 +115,19 @@ public final class DescribeTest {
         Check.same("circuit", x.description(1, 1, 8, 4), 2);
         Check.same("a speaker without neighbours says nothing", x.describe(2), 1);
         Check.same("and has no link", x.description(2, 1, 14, 4), 0);
+    }
+
+    private static void everyCircuit() {
+        for (int c = 0; c < 6; c++) {
+            AreaRouters x = new AreaRouters();
+            for (int r = 3; r < 6; r++) {
+                x.attach(r, c, 2, 0);
+            }
+            Check.greet(x, c, 3, 4, 5);
+            Check.same("itself and the circuit", x.describe(5), 2);
+            Check.same("link to the circuit", x.description(5, 1, 35, 5), 36 + c + 128);
+            Check.same("links of the circuit", x.description(5, 1, 36 + c, 4), 3);
+        }
     }
 
     private static void exits() {

@@ -3,7 +3,7 @@ import java.util.function.IntSupplier;
 
 /** Long runs of calls, the same each time, on the class and on the model; every answer must be the same. */
 public final class ModelTest {
-    private static final int RUNS = 600;
+    private static final int RUNS = 400;
     private static final int CALLS = 400;
     private static final int[] ODD = {Integer.MIN_VALUE, -64, -1, 6, 7, 42, 64, 101, Integer.MAX_VALUE};
 
@@ -121,11 +121,14 @@ public final class ModelTest {
     private void step() {
         int kind = random.nextInt(100);
         if (kind < 2) {
-            place(pick(6), pick(3), level());
+            place(pick(6), random.nextInt(6) - 1, random.nextInt(6) - 1);
         } else if (kind < 4) {
             attach();
         } else if (kind < 6) {
             helloAll();
+            if (random.nextInt(4) == 0) {
+                settle();
+            }
         } else if (kind < 20) {
             hello(pick(6), pick(circuits), meant());
         } else if (kind < 32) {
@@ -160,6 +163,28 @@ public final class ModelTest {
         }
     }
 
+    /** All describe, and what is due goes all the way. */
+    private void settle() {
+        helloAll();
+        for (int r = 0; r < 6; r++) {
+            describe(r);
+        }
+        for (int round = 0; round < 3; round++) {
+            for (int i = 0; i < 6 * circuits * 2; i++) {
+                int r = i % 6;
+                int c = i / 6 % circuits;
+                int l = 1 + i / 6 / circuits;
+                if (model.speaker(r, c, l) >= 0) {
+                    both("spread(" + r + ", " + c + ", " + l + ", 63)",
+                        () -> real.spread(r, c, l, 63), () -> model.spread(r, c, l, 63));
+                }
+            }
+        }
+        for (int r = 0; r < 6; r++) {
+            compareRoutes(r);
+        }
+    }
+
     private void ask() {
         int a = pick(6);
         int b = pick(6);
@@ -187,6 +212,10 @@ public final class ModelTest {
                 compareName(r, l, name);
             }
         }
+        compareRoutes(r);
+    }
+
+    private void compareRoutes(int r) {
         for (int d = 0; d < 6; d++) {
             int to = d;
             if (real.route(r, d) != model.route(r, d) || real.trace(r, d) != model.trace(r, d)) {

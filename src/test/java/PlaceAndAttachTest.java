@@ -63,8 +63,9 @@ public final class PlaceAndAttachTest {
         Check.yes("place after a refused attach", x.place(2, 1, 2));
         Check.yes("attach", x.attach(2, 5, 1, 0));
         Check.no("place after attach", x.place(2, 0, 1));
-        Check.no("the same place after attach", x.place(2, 1, 2));
         Check.same("levels stay", x.marks(2, 1, 0), -1);
+        Check.same("levels stay", x.marks(2, 2, 0), 0);
+        Check.no("the same place after attach", x.place(2, 1, 2));
         x.describe(2);
         Check.same("area stays", x.description(2, 2, 14, 3), 1);
         Check.yes("place of another", x.place(3, 2, 2));

@@ -6,6 +6,7 @@ public final class RouteTest {
         leastCostThenLeastHop();
         cheaperOfTwoLinks();
         straightOrThroughNeighbour();
+        behindBoth();
         toAnotherArea();
         toOwnAreaAtLevelTwo();
         nearestExit();
@@ -124,6 +125,22 @@ public final class RouteTest {
         Check.same("on from 1", x.route(1, 2), 2 + 8 * 10);
     }
 
+    /** Router 0 reaches router 1 at cost 10 through router 3 and over the circuit of speaker 5; 2 is behind 1. */
+    private static void behindBoth() {
+        AreaRouters x = new AreaRouters();
+        x.attach(0, 0, 10, 0);
+        x.attach(1, 0, 10, 0);
+        x.attach(5, 0, 10, 0);
+        Check.greet(x, 0, 0, 1, 5);
+        join(x, 1, 0, 4, 3, 4);
+        join(x, 2, 3, 6, 1, 6);
+        join(x, 3, 1, 1, 2, 1);
+        settle(x);
+        Check.same("to 1", x.route(0, 1), 1 + 8 * 10);
+        Check.same("to 2", x.route(0, 2), 1 + 8 * 11);
+        Check.same("trace", x.trace(0, 2), 2);
+    }
+
     private static AreaRouters areas() {
         AreaRouters x = new AreaRouters();
         x.place(0, 0, 1);
@@ -146,6 +163,8 @@ public final class RouteTest {
         Check.same("as near: the least number", x.route(1, 4), 2 + 8 * 10);
         Check.same("also to the other itself", x.route(1, 3), 2 + 8 * 10);
         Check.same("area 2", x.route(1, 5), 2 + 8 * 17);
+        Check.same("2 to itself", x.route(2, 2), -1);
+        Check.same("0 to itself", x.route(0, 0), -1);
         Check.same("0 goes to the exit", x.route(0, 5), 1 + 8);
         Check.same("0 goes to the exit for 4 too", x.route(0, 4), 1 + 8);
         Check.same("trace", x.trace(0, 5), 3);
@@ -220,6 +239,20 @@ public final class RouteTest {
         x.tick();
         Check.same("life 0", x.route(0, 1), -1);
         Check.same("life 0", x.trace(0, 1), -1);
+        for (int early = 0; early < 2; early++) {
+            AreaRouters z = Check.pair();
+            z.describe(early);
+            z.spread(early, 0, 1, 63);
+            Check.ticks(z, 3);
+            z.describe(1 - early);
+            z.spread(1 - early, 0, 1, 63);
+            Check.ticks(z, 16);
+            Check.same("both live", z.route(0, 1), 1 + 80);
+            z.tick();
+            Check.same("one is over", z.description(0, 1, 7 * early, 1), 0);
+            Check.same("the other lives", z.description(0, 1, 7 - 7 * early, 1), 3);
+            Check.same("no way", z.route(0, 1), -1);
+        }
         AreaRouters y = Check.trio();
         settle(y);
         Check.same("over the circuit", y.route(0, 1), 1 + 8 * 3);

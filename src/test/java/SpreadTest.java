@@ -9,6 +9,7 @@ public final class SpreadTest {
         askedAsBeforeOnShared();
         olderComes();
         olderUnasks();
+        olderMakesDue();
         lifeZeroIsNewer();
         ownNameAnew();
         ownNameEnds();
@@ -178,6 +179,21 @@ public final class SpreadTest {
         Check.same("newer from elsewhere: asked on both", x.marks(1, 1, 0), 4 + 64 * (1 + 4));
         x.spread(2, 2, 1, 63);
         Check.same("the older one again: asked there no more", x.marks(1, 1, 0), 4 + 64);
+    }
+
+    private static void olderMakesDue() {
+        AreaRouters x = Check.trio();
+        x.describe(0);
+        x.spread(0, 2, 1, 4);
+        x.summary(1, 2, 1, 4);
+        Check.same("2 has sequence 1 due", x.marks(2, 1, 0), 4);
+        x.attach(0, 2, 30, 5);
+        x.describe(0);
+        x.spread(0, 2, 1, 2);
+        Check.same("1 has sequence 2, due nowhere", x.marks(1, 1, 0), 0);
+        Check.same("2 sends the old one", x.spread(2, 2, 1, 2), 1);
+        Check.same("1 keeps the newer one", x.description(1, 1, 0, 0), 2);
+        Check.same("due at 1 by this", x.marks(1, 1, 0), 4);
     }
 
     private static void lifeZeroIsNewer() {
