@@ -36,6 +36,20 @@ final class Check {
         System.out.println(what + " gave " + got + ", due is " + want.getName());
     }
 
+    /** Whether a call answers or what it throws: "answers", or the name of the exception. */
+    static void kind(String what, IntSupplier call, String want) {
+        String got = "answers";
+        try {
+            call.getAsInt();
+        } catch (RuntimeException e) {
+            got = e.getClass().getSimpleName();
+        }
+        if (!got.equals(want)) {
+            wrong++;
+            System.out.println(what + ": " + got + ", due is " + want);
+        }
+    }
+
     static void finish() {
         System.out.println(wrong == 0 ? "all answers are as due" : wrong + " answers are not as due");
         if (wrong != 0) {
